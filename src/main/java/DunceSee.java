@@ -34,7 +34,7 @@ public final class DunceSee {
     private final Roll told = new Roll();
     /** Where a call tries what might be, so that the SEE itself stays as it was told. */
     private final Roll tried = new Roll();
-    private final Reader reader = new Reader(tried);
+    private final Reader reader = new Reader();
     private final Readings readings = new Readings();
     private final Sheets sheets = new Sheets();
     private int trace;
@@ -61,7 +61,7 @@ public final class DunceSee {
         if (place != NONE) {
             return BEFORE_PLACES - place;
         }
-        told.become(tried);
+        told.become(reader.roll);
         readings.keep(0);
         return told.pupils;
     }
@@ -462,7 +462,7 @@ public final class DunceSee {
         return BEFORE_FAULTS - met;
     }
 
-    /** Leaves what the cells tell in tried; the place of the FIRST FAULT, or NONE. */
+    /** Leaves what the cells tell with the reader; the place of the FIRST FAULT, or NONE. */
     private int firstFaultOfText(int sheet, int i, int n) {
         reader.begin();
         for (int place = 0; place < n; place++) {
@@ -713,7 +713,7 @@ public final class DunceSee {
     }
 
     /**
-     * Takes a TEXT into a roll, code by code, until one comes with which no TEXT goes on.
+     * Takes a TEXT into its roll, code by code, until one comes with which no TEXT goes on.
      * The roll is of use only if all codes were taken and the TEXT may end there.
      */
     private static final class Reader {
@@ -721,12 +721,8 @@ public final class DunceSee {
             AT_FIRST_DAY = 4, BEHIND_DAY = 5, AT_KIND = 6, AT_WIT = 7, AT_PATIENCE = 8,
             BEHIND_PUPIL = 9;
 
-        private final Roll roll;
+        private final Roll roll = new Roll();
         private int step;
-
-        Reader(Roll roll) {
-            this.roll = roll;
-        }
 
         void begin() {
             step = AT_START;

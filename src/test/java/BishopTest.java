@@ -75,5 +75,19 @@ public final class BishopTest {
         due.is("stand(0)", x.stand(0), 2);
         due.is("bishop()", x.bishop(), 1);
         due.is("choose behind best", x.choose(1, 1), 0);
+        DunceSee y = Due.told("c94,5;p65;p64");
+        Due.plan(y, 0, 1, 1);
+        due.is("best behind a plan", y.best(1), 1);
+        Due.plan(y, 0, 1, 1);
+        due.is("choose behind a plan", y.choose(0, 0), 7);
+        y.ask(0, 7);
+        due.is("best behind ask", y.best(0), 0);
+        y.teach(1, 9);
+        y.teach(0, 8);
+        due.is("best behind teach", y.best(1), 1);
+        y.doubt(2);
+        due.is("best behind doubt", y.best(1), -9);
+        Due.see(y, 0, "c94,5;p45");
+        due.is("best behind a text", y.best(0), 0);
     }
 }

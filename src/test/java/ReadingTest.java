@@ -195,6 +195,25 @@ public final class ReadingTest {
         share(some, 1, 1, 8);
         share(some, 2, 5, 8);
         due.is("odds keep no plan", z.stand(0), 0);
+        DunceSee changed = Due.told("c94,5;p65;p64");
+        changed.wits(0);
+        changed.teach(0, 4);
+        share(changed, 0, 1, 1);
+        changed.hards(0);
+        changed.teach(0, 6);
+        share(changed, 0, 1, 2);
+        changed.doubt(0);
+        share(changed, 0, 0, 1);
+        Due.plan(changed, 0, 1, 1);
+        due.is("no plan is behind wits", changed.wits(0), 1023);
+        changed.doubt(9);
+        Due.plan(changed, 0, 1, 1);
+        changed.reading(0, 1, 5);
+        due.is("nobody PRETENDED in wits", changed.wits(0), 31);
+        Due.plan(changed, 0, 1, 1);
+        due.is("nobody PRETENDED in hards", changed.hards(0), 896);
+        Due.plan(changed, 0, 1, 1);
+        due.is("nobody PRETENDED in kinds", changed.kinds(0), 0);
     }
 
     private static void share(DunceSee x, int p, int upper, int lower) {

@@ -13,6 +13,8 @@ public final class StandTest {
         refusalsOfPlan();
         faultsOfPlan();
         plansOfLanesAndPlaces();
+        theGreatestSee();
+        theLeastSee();
         due.end();
     }
 
@@ -125,6 +127,7 @@ public final class StandTest {
         due.is("it is of use to 0", Due.plan(x, 1, 0, 0), 0);
         due.is("more HOURS of 0 are none", Due.plan(Due.told("c94,5;p60;d61;u61"), 1, 0, 0, 0), -9);
         due.is("of 1 they are", Due.plan(Due.told("c94,5;p60;d61;u62"), 1, 0, 0, 0), 2);
+        due.is("0 is asked about, but does not PRETEND", Due.plan(Due.told("c91,5;p50;p65"), 1, 0, 0), 1);
         due.is("a lesser WIT makes ROOM", Due.plan(Due.told("c91,5;p75;p65"), 1, 1, 0), 1);
     }
 
@@ -202,5 +205,39 @@ public final class StandTest {
             due.is("plan further on", x.plan(2, lane, 2, 2, 21), 0);
             due.is("fault()", x.fault(), 0);
         }
+    }
+
+    private static void theGreatestSee() {
+        DunceSee x = Due.told("c93,55555;p61;d62;u64;p54");
+        int all = 31;
+        due.is("BISHOP", Due.plan(x, 0, all, all, all, all), 3);
+        due.is("all are at REST", Due.plan(x, 1, all, all, all, all), -9);
+        due.is("HOURS of all", Due.plan(x, 2, all, all, all, all), 30);
+        due.is("crowded DAYS", Due.plan(x, 3, all, all, all, all), 31);
+        int[] hours = {5, 5, 0, 20};
+        for (int p = 0; p < 4; p++) {
+            due.is("HOURS of " + p, Due.plan(x, 10 + p, all, all, all, all), hours[p]);
+        }
+        for (int d = 0; d < 5; d++) {
+            due.is("who STANDS", Due.plan(x, 20 + d, all, all, all, all), 11);
+            due.is("stand(" + d + ")", x.stand(d), 0);
+        }
+        due.is("the last would rather", Due.plan(x, 1, all, all, all, 15), 3);
+        due.is("crowded DAYS", Due.plan(x, 3, all, all, all, 15), 15);
+        due.is("best(3)", x.best(3), 1);
+        due.is("bishop()", x.bishop(), -9);
+        due.is("odds(3, 0)", x.odds(3, 0), 1);
+        due.is("odds(3, 1)", x.odds(3, 1), 2);
+    }
+
+    private static void theLeastSee() {
+        DunceSee x = Due.told("c11,1;p11");
+        due.is("bishop()", x.bishop(), -9);
+        due.is("doubt(0)", x.doubt(0), 1);
+        due.is("build(2)", x.build(2), 1);
+        due.is("plan", Due.plan(x, 0, 1), -9);
+        x.doubt(1);
+        due.is("plan", Due.plan(x, 0, 1), 0);
+        due.is("would rather", Due.plan(x, 1, 0), 0);
     }
 }
