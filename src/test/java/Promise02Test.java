@@ -118,6 +118,29 @@ public final class Promise02Test extends Promises {
         text(due, "cx0", -101);
     }
 
+    @Holds(promise = 2, says = "the first code with which no TEXT goes on")
+    static void everyCodeAtEveryPlace(Due due) {
+        String whole = "c42,36159;p45;d27;u68;p53";
+        String digits = "0123456789";
+        String more = digits + ";";
+        String[] goesOn = {"c", digits, "1234", ",", digits, more, more, more, more,
+            ";", "pdu", digits, digits, ";", "pdu", digits, digits,
+            ";", "pdu", digits, digits, ";", "pdu", digits, digits, ""};
+        for (int place = 0; place < goesOn.length; place++) {
+            for (int from = -130; from < 260; from += 195) {
+                DunceSee x = new DunceSee();
+                row(x, 0, 1, codes(whole + "."));
+                for (int code = from; code < from + 195; code++) {
+                    x.put(0, place, code);
+                    boolean fits = code > 0 && goesOn[place].indexOf(code) >= 0;
+                    boolean isWhole = fits && place >= 12 && place % 4 == 0;
+                    due.is("code " + code + " at " + place, x.see(0, 1, 0, place + 1),
+                        isWhole ? place / 4 - 2 : fits ? -101 - place : -100 - place);
+                }
+            }
+        }
+    }
+
     @Holds(promise = 2, says = "the digit of a sixth DAY")
     static void aSixthDay(Due due) {
         text(due, "c41,12345;p45", 1);

@@ -88,6 +88,12 @@ public final class Promise12Test extends Promises {
         due.is("1 HOUR more", plan(told("c94,5;p60;d61;u62"), 1, 0, 0, 0), 2);
         due.is("one STANDS anyhow", plan(told("c94,55;p41"), 1, 0), NONE);
         due.is("others are as told", plan(told("c91,5;p75;p65"), 1, 0, 1), NONE);
+        due.is("others are as told, who are asked before, too", plan(told("c91,5;p50;p65"), 1, 0, 0), 1);
+        due.is("all five DAYS", plan(told("c94,55555;p65"), 1, 31), NONE);
+        due.is("four of five DAYS", plan(told("c94,55555;p65"), 1, 15), 0);
+        DunceSee fewer = told("c94,99999;p65");
+        see(fewer, 0, "c94,5;p65");
+        due.is("DAYS that were", plan(fewer, 1, 1), NONE);
         due.is("to be BISHOP is not asked", plan(told("c94,5;p61;p49"), 1, 0, 0), 0);
     }
 
@@ -346,9 +352,17 @@ public final class Promise12Test extends Promises {
             due.is("SIZE", x.plan(1, 2, 0, -4, 0), -10 - SIZE);
             due.is("INDEX", x.plan(1, 2, 2, 4, 0), -10 - INDEX);
         });
+    }
+
+    @Holds(promise = 12, says = "A PLAN told")
+    static void aPlanIsNotKept(Due due) {
+        DunceSee x = told(FOUR);
+        x.reading(0, 2, 5);
+        row(x, 1, 2, 15, 15, 15, 15);
         changesNothing(due, x, () -> {
+            int[] want = {1, NONE, 44, 11};
             for (int what = 0; what <= 3; what++) {
-                due.holds("a plan is taken", x.plan(1, 2, 0, 4, what) >= NONE);
+                due.is("what " + what, x.plan(1, 2, 0, 4, what), want[what]);
             }
         });
     }
