@@ -1,3 +1,5 @@
+import java.util.function.LongSupplier;
+
 /** Promise 21: sheet. */
 public final class Promise21Test extends Promises {
     public static void main(String[] args) {
@@ -95,7 +97,7 @@ public final class Promise21Test extends Promises {
         }
     }
 
-    private static java.util.function.LongSupplier rowOfNone(DunceSee x, int lane) {
+    private static LongSupplier rowOfNone(DunceSee x, int lane) {
         return () -> x.sheet(0, lane, 0);
     }
 

@@ -1,3 +1,5 @@
+import java.util.function.LongSupplier;
+
 /** Promise 31: many. */
 public final class Promise31Test extends Promises {
     public static void main(String[] args) {
@@ -20,7 +22,7 @@ public final class Promise31Test extends Promises {
         due.is("READINGS", x.many(4), 0);
     }
 
-    private static java.util.function.LongSupplier manyOf(DunceSee x, int what) {
+    private static LongSupplier manyOf(DunceSee x, int what) {
         return () -> x.many(what);
     }
 
