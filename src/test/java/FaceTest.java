@@ -48,10 +48,6 @@ public final class FaceTest {
         for (Field field : DunceSee.class.getDeclaredFields()) {
             int seen = field.getModifiers() & (Modifier.PUBLIC | Modifier.PRIVATE);
             due.holds("field " + field.getName() + " is public or private", seen != 0);
-            if (Modifier.isStatic(field.getModifiers())) {
-                due.holds("static " + field.getName() + " is final",
-                    Modifier.isFinal(field.getModifiers()));
-            }
         }
     }
 
@@ -85,10 +81,24 @@ public final class FaceTest {
     private static void nested(Due due) {
         Class<?>[] inside = DunceSee.class.getDeclaredClasses();
         due.holds("at most twelve classes", inside.length < 12);
+        fieldsOf(due, DunceSee.class);
         for (Class<?> one : inside) {
             due.holds(one + " is static and not public", Modifier.isStatic(one.getModifiers())
                 && (one.getModifiers() & (Modifier.PUBLIC | Modifier.PROTECTED)) == 0);
+            fieldsOf(due, one);
         }
+    }
+
+    private static void fieldsOf(Due due, Class<?> one) {
+        int fields = 0;
+        for (Field field : one.getDeclaredFields()) {
+            if (Modifier.isStatic(field.getModifiers())) {
+                due.holds(field + " is a constant", Modifier.isFinal(field.getModifiers()));
+            } else {
+                fields++;
+            }
+        }
+        due.holds(one + " has at most twenty fields", fields <= 20);
     }
 
     private static String signature(Method method) {
